@@ -41,13 +41,13 @@ public final class DebtTable {
     private static final int TOO_MANY = 4;
 
     private final Tape tape = new Tape();
-    private final Shire now = new Shire();
+    private final Shire state = new Shire();
     private final Shire spare = new Shire();
     private final Past past = new Past();
     private final Web web = new Web();
     private final Ledger ledger = new Ledger();
     private final Line latestLine = new Line();
-    private Sentence said = new Sentence();
+    private Sentence spoken = new Sentence();
     private Sentence spareSentence = new Sentence();
     private final Shire[] keptShires = new Shire[IMAGES];
     private final Sentence[] keptSentences = new Sentence[IMAGES];
@@ -93,8 +93,8 @@ public final class DebtTable {
         if (lines < 0) {
             return -1 - tape.faultPlace;
         }
-        now.become(spare);
-        said.length = 0;
+        state.become(spare);
+        spoken.length = 0;
         past.forget();
         return lines;
     }
@@ -111,58 +111,58 @@ public final class DebtTable {
     // ---- what is so
 
     public int house(int h, int what) throws NoSuchElementException {
-        if (!now.hasHouse(h)) {
+        if (!state.hasHouse(h)) {
             throw new NoSuchElementException("no such house");
         }
         switch (what) {
-            case 0: return now.coins[h];
-            case 1: return now.income[h];
-            case 2: return now.chairs[h];
-            case 3: return now.owedBy(h);
-            case 4: return now.owedTo(h);
-            case 5: return now.openBits(h);
-            case 6: return Math.max(0, now.openCount(h) - now.chairs[h]);
+            case 0: return state.coins[h];
+            case 1: return state.income[h];
+            case 2: return state.chairs[h];
+            case 3: return state.owedBy(h);
+            case 4: return state.owedTo(h);
+            case 5: return state.openBits(h);
+            case 6: return Math.max(0, state.openCount(h) - state.chairs[h]);
             default: throw new NoSuchElementException("no such fact of a house");
         }
     }
 
     public int worth(int h) throws NoSuchElementException {
-        if (!now.hasHouse(h)) {
+        if (!state.hasHouse(h)) {
             throw new NoSuchElementException("no such house");
         }
-        return now.coins[h] + now.owedTo(h) - now.owedBy(h);
+        return state.coins[h] + state.owedTo(h) - state.owedBy(h);
     }
 
     public int debt(int d, int what) {
-        return now.hasDebt(d) ? now.traitOf(d, what) : NONE;
+        return state.hasDebt(d) ? state.traitOf(d, what) : NONE;
     }
 
     public int at(int h, int k) {
-        if (!now.hasHouse(h) || k < 0 || k >= now.chairs[h]) {
+        if (!state.hasHouse(h) || k < 0 || k >= state.chairs[h]) {
             return NONE;
         }
-        return now.debtInPlace(h, k);
+        return state.debtInPlace(h, k);
     }
 
     public int now(int what) {
         switch (what) {
-            case 0: return now.year;
-            case 1: return now.allCoins();
-            case 2: return now.allLeft();
-            case 3: return now.allOpenBits();
-            case 4: return now.paid;
-            case 5: return now.brokeBits();
-            case 6: return web.ringedBits(now);
+            case 0: return state.year;
+            case 1: return state.allCoins();
+            case 2: return state.allLeft();
+            case 3: return state.allOpenBits();
+            case 4: return state.paid;
+            case 5: return state.brokeBits();
+            case 6: return web.ringedBits(state);
             default: return NONE;
         }
     }
 
     public int count(int what) {
         switch (what) {
-            case 0: return now.houses;
-            case 1: return now.debts;
-            case 2: return now.growCoins;
-            case 3: return now.growYears;
+            case 0: return state.houses;
+            case 1: return state.debts;
+            case 2: return state.growCoins;
+            case 3: return state.growYears;
             case 4: return tape.length;
             default: return NONE;
         }
@@ -171,43 +171,43 @@ public final class DebtTable {
     // ---- acts
 
     public int pay(int d, int n) {
-        if (!now.hasDebt(d) || n < 1 || n > MOST_PAID_AT_ONCE) {
+        if (!state.hasDebt(d) || n < 1 || n > MOST_PAID_AT_ONCE) {
             return NONE;
         }
-        spare.become(now);
-        return keptIfDone(now.payOff(d, n));
+        spare.become(state);
+        return keptIfDone(state.payOff(d, n));
     }
 
     public int borrow(int h, int g, int n) {
-        if (!now.hasHouse(h) || !now.hasHouse(g) || h == g || n < 1 || n > MOST_LENT_AT_ONCE) {
+        if (!state.hasHouse(h) || !state.hasHouse(g) || h == g || n < 1 || n > MOST_LENT_AT_ONCE) {
             return NONE;
         }
-        spare.become(now);
-        return keptIfDone(now.takeLoan(h, g, n));
+        spare.become(state);
+        return keptIfDone(state.takeLoan(h, g, n));
     }
 
     public int sell(int d, int h) {
-        if (!now.hasDebt(d) || !now.hasHouse(h)) {
+        if (!state.hasDebt(d) || !state.hasHouse(h)) {
             return NONE;
         }
-        spare.become(now);
-        return keptIfDone(now.handOver(d, h));
+        spare.become(state);
+        return keptIfDone(state.handOver(d, h));
     }
 
     public int forgive(int d) {
-        if (!now.hasDebt(d)) {
+        if (!state.hasDebt(d)) {
             return NONE;
         }
-        spare.become(now);
-        return keptIfDone(now.strikeOut(d));
+        spare.become(state);
+        return keptIfDone(state.strikeOut(d));
     }
 
     public int clear(int d, int e) {
-        if (!now.hasDebt(d) || !now.hasDebt(e)) {
+        if (!state.hasDebt(d) || !state.hasDebt(e)) {
             return NONE;
         }
-        spare.become(now);
-        return keptIfDone(now.setOff(d, e));
+        spare.become(state);
+        return keptIfDone(state.setOff(d, e));
     }
 
     /** The acts leave what was so ahead of them in spare; it is kept only if the act was done. */
@@ -222,26 +222,26 @@ public final class DebtTable {
         if (n < 1 || n > MOST_YEARS_A_CALL) {
             return NONE;
         }
-        int going = Math.min(n, now.yearsLeft());
+        int going = Math.min(n, state.yearsLeft());
         if (going > 0) {
-            past.keep(now);
+            past.keep(state);
         }
         for (int i = 0; i < going; i++) {
-            now.passYear();
+            state.passYear();
         }
         return going;
     }
 
     public int undo() {
-        return past.bringBack(now) ? past.size : NONE;
+        return past.bringBack(state) ? past.size : NONE;
     }
 
     public int drawn(int n, int seed) {
         if (n < 1 || n > MOST_YEARS_A_CALL) {
             return NONE;
         }
-        spare.become(now);
-        int went = now.drawYears(n, new Draw(seed));
+        spare.become(state);
+        int went = state.drawYears(n, new Draw(seed));
         if (went > 0) {
             past.keep(spare);
         }
@@ -249,13 +249,13 @@ public final class DebtTable {
     }
 
     public int odds(int h, int n, int seed) {
-        if (!now.hasHouse(h) || n < 1 || n > MOST_SEEDS) {
+        if (!state.hasHouse(h) || n < 1 || n > MOST_SEEDS) {
             return NONE;
         }
         Draw draw = new Draw(seed);
         int broke = 0;
         for (int i = 0; i < n; i++) {
-            spare.become(now);
+            spare.become(state);
             draw.x = seed + i;
             spare.drawYears(YEARS_A_SEED, draw);
             if (spare.isBroke(h)) {
@@ -268,17 +268,17 @@ public final class DebtTable {
     // ---- what is asked of houses and debts
 
     public int top(int d) {
-        if (!now.hasDebt(d) || !now.isOpen(d)) {
+        if (!state.hasDebt(d) || !state.isOpen(d)) {
             return NONE;
         }
-        return now.leftAheadOf(d);
+        return state.leftAheadOf(d);
     }
 
     public int able(int h) {
-        if (!now.hasHouse(h)) {
+        if (!state.hasHouse(h)) {
             return NONE;
         }
-        latestAble = now.ableBits(h);
+        latestAble = state.ableBits(h);
         return Integer.bitCount(latestAble);
     }
 
@@ -287,10 +287,10 @@ public final class DebtTable {
     }
 
     public int meets(int h) {
-        if (!now.hasHouse(h)) {
+        if (!state.hasHouse(h)) {
             return NONE;
         }
-        spare.become(now);
+        spare.become(state);
         for (int went = 0; went <= MOST_YEARS_AHEAD; went++) {
             if (spare.isBroke(h)) {
                 return went;
@@ -301,10 +301,10 @@ public final class DebtTable {
     }
 
     public int ring(int h) {
-        if (!now.hasHouse(h)) {
+        if (!state.hasHouse(h)) {
             return NONE;
         }
-        return web.findRing(now, h) ? web.foundLength : NONE;
+        return web.findRing(state, h) ? web.foundLength : NONE;
     }
 
     public int ringAt(int k) {
@@ -312,17 +312,17 @@ public final class DebtTable {
     }
 
     public int settle() {
-        return web.fewestPayments(now);
+        return web.fewestPayments(state);
     }
 
     public int fullest() {
-        if (now.houses == 0) {
+        if (state.houses == 0) {
             return NONE;
         }
         int best = 0;
-        for (int h = 1; h < now.houses; h++) {
+        for (int h = 1; h < state.houses; h++) {
             // as fractions, each by the other's chairs
-            if (now.openCount(h) * now.chairs[best] > now.openCount(best) * now.chairs[h]) {
+            if (state.openCount(h) * state.chairs[best] > state.openCount(best) * state.chairs[h]) {
                 best = h;
             }
         }
@@ -330,14 +330,14 @@ public final class DebtTable {
     }
 
     public int mean(int h, int what) throws NoSuchElementException {
-        if (!now.hasHouse(h) || what < 0 || what > 1) {
+        if (!state.hasHouse(h) || what < 0 || what > 1) {
             throw new NoSuchElementException("no such house or number");
         }
-        int below = now.openCount(h);
+        int below = state.openCount(h);
         if (below < 1) {
             throw new NoSuchElementException("the house has no open debt");
         }
-        int above = now.openAges(h);
+        int above = state.openAges(h);
         int common = commonDivisor(above, below);
         return (what == 0 ? above : below) / common;
     }
@@ -371,7 +371,7 @@ public final class DebtTable {
         if (tape.length % 2 != 0 || pairs < 1 || pairs > MOST_PAIRS) {
             return NONE;
         }
-        int bits = now.allOpenBits();
+        int bits = state.allOpenBits();
         for (int i = 0; i < pairs; i++) {
             int trait = tape.byteIn(2 * i);
             if (trait >= TRAITS) {
@@ -384,8 +384,8 @@ public final class DebtTable {
 
     private int bitsWith(int trait, int number) {
         int bits = 0;
-        for (int d = 0; d < now.debts; d++) {
-            if (now.traitOf(d, trait) == number) {
+        for (int d = 0; d < state.debts; d++) {
+            if (state.traitOf(d, trait) == number) {
                 bits |= 1 << d;
             }
         }
@@ -408,9 +408,9 @@ public final class DebtTable {
     /** The greatest number of debts among bits that are alike in a trait. */
     private int greatestAlike(int bits, int trait) {
         int among = 0;
-        for (int d = 0; d < now.debts; d++) {
+        for (int d = 0; d < state.debts; d++) {
             if ((bits >> d & 1) == 1) {
-                traitRow[among] = now.traitOf(d, trait);
+                traitRow[among] = state.traitOf(d, trait);
                 among++;
             }
         }
@@ -430,10 +430,10 @@ public final class DebtTable {
     // ---- lines
 
     public int line(int d) {
-        if (!now.hasDebt(d)) {
+        if (!state.hasDebt(d)) {
             return NONE;
         }
-        latestLine.tell(now, d);
+        latestLine.tell(state, d);
         return latestLine.length;
     }
 
@@ -448,16 +448,16 @@ public final class DebtTable {
             return WRONG_LIVES;
         }
         tape.begin(BOOK_BYTES);
-        boolean isRead = ledger.read(tape, now);
+        boolean isRead = ledger.read(tape, state);
         closeText();
         if (!isRead) {
             return -2 - tape.faultPlace;
         }
-        spare.become(now);
+        spare.become(state);
         ledger.judge(spare);
         if (lives == 1 && ledger.rightLines > 0) {
-            past.keep(now);
-            now.become(spare);
+            past.keep(state);
+            state.become(spare);
         }
         return ledger.whyWrong == 0 ? NONE : ledger.rightLines;
     }
@@ -480,26 +480,26 @@ public final class DebtTable {
     public int sentence() {
         tape.begin(SENTENCE_BYTES);
         spareSentence.length = 0;
-        SentenceReader reader = new SentenceReader(tape, now, spareSentence);
+        SentenceReader reader = new SentenceReader(tape, state, spareSentence);
         boolean isRead = reader.readCondition(1) && tape.takeEnd();
         closeText();
         if (!isRead) {
             return -1 - tape.faultPlace;
         }
-        Sentence old = said;
-        said = spareSentence;
+        Sentence old = spoken;
+        spoken = spareSentence;
         spareSentence = old;
         return reader.ones;
     }
 
     public int said(int k) {
-        if (said.length == 0 || k < NONE) {
+        if (spoken.length == 0 || k < NONE) {
             return NONE;
         }
-        int ringed = web.ringedBits(now);
+        int ringed = web.ringedBits(state);
         int number = 0;
-        for (int h = 0; h < now.houses; h++) {
-            if (said.holdsOf(now, h, ringed)) {
+        for (int h = 0; h < state.houses; h++) {
+            if (spoken.holdsOf(state, h, ringed)) {
                 if (number == k) {
                     return h;
                 }
@@ -515,8 +515,8 @@ public final class DebtTable {
         if (k < 0 || k >= IMAGES) {
             return false;
         }
-        keptShires[k].become(now);
-        keptSentences[k].become(said);
+        keptShires[k].become(state);
+        keptSentences[k].become(spoken);
         isKept[k] = true;
         return true;
     }
@@ -525,8 +525,8 @@ public final class DebtTable {
         if (k < 0 || k >= IMAGES || !isKept[k]) {
             return false;
         }
-        now.become(keptShires[k]);
-        said.become(keptSentences[k]);
+        state.become(keptShires[k]);
+        spoken.become(keptSentences[k]);
         past.forget();
         return true;
     }
@@ -992,7 +992,7 @@ public final class DebtTable {
             return sum;
         }
 
-        /** The least debts first, of like ones the lesser number: so the most are paid, at least cost, with the least bits. */
+        /** The least debts first, of like ones the lesser number: the most, at least cost, with the least bits. */
         int ableBits(int h) {
             int bits = 0;
             int purse = coins[h];
@@ -1301,40 +1301,33 @@ public final class DebtTable {
                 if (!readLine(tape, shire) || !tape.takeMark(';')) {
                     return false;
                 }
-                lines++;
             }
             return false;
         }
 
         private boolean readLine(Tape tape, Shire shire) {
-            int kind = actOf(tape.word);
-            boolean isBorrow = tape.isName();
-            if (kind == NONE && !isBorrow) {
+            int kind = tape.isName() ? BORROW : actOf(tape.word);
+            if (kind == NONE) {
                 return tape.fail(CANT_COME);
             }
-            if (isBorrow && shire.houseNamed(tape.letters) == NONE) {
+            // a name that is not told is the lesser fault than a line too many
+            if (kind == BORROW && shire.houseNamed(tape.letters) == NONE) {
                 return tape.fail(WRONG_NAME);
             }
             if (lines >= MOST_LINES) {
                 return tape.fail(TOO_MANY);
             }
-            act[lines] = isBorrow ? BORROW : kind;
-            if (isBorrow) {
+            if (kind == BORROW) {
                 return readBorrow(tape, shire);
             }
             tape.advance();
-            if (kind == YEAR) {
-                return tape.takeNumber(1, MOST_YEARS_A_CALL) && noteFirst(tape);
-            }
-            if (!tape.takeDebt() || !noteFirst(tape)) {
+            boolean isTaken = kind == YEAR ? tape.takeNumber(1, MOST_YEARS_A_CALL) : tape.takeDebt();
+            int yearsOrDebt = tape.taken;
+            if (!isTaken || !takeSecond(tape, shire, kind)) {
                 return false;
             }
-            switch (kind) {
-                case PAY: return tape.takeNumber(1, MOST_PAID_AT_ONCE) && noteSecond(tape);
-                case SELL: return tape.takeHouse(shire, NONE) && noteSecond(tape);
-                case CLEAR: return tape.takeDebt() && noteSecond(tape);
-                default: return true;
-            }
+            addLine(kind, yearsOrDebt, tape.taken, 0);
+            return true;
         }
 
         private static int actOf(Word word) {
@@ -1353,33 +1346,39 @@ public final class DebtTable {
             return word == Word.YEAR ? YEAR : NONE;
         }
 
+        private static boolean takeSecond(Tape tape, Shire shire, int kind) {
+            switch (kind) {
+                case PAY: return tape.takeNumber(1, MOST_PAID_AT_ONCE);
+                case SELL: return tape.takeHouse(shire, NONE);
+                case CLEAR: return tape.takeDebt();
+                default: return true;
+            }
+        }
+
         private boolean readBorrow(Tape tape, Shire shire) {
             if (!tape.takeHouse(shire, NONE)) {
                 return false;
             }
             int borrower = tape.taken;
-            noteFirst(tape);
             if (!tape.takeWord(Word.BORROWS) || !tape.takeNumber(1, MOST_LENT_AT_ONCE)) {
                 return false;
             }
-            if (lines < MOST_LINES) {
-                third[lines] = tape.taken;
+            int sum = tape.taken;
+            if (!tape.takeHouse(shire, borrower)) {
+                return false;
             }
-            return tape.takeHouse(shire, borrower) && noteSecond(tape);
-        }
-
-        private boolean noteFirst(Tape tape) {
-            if (lines < MOST_LINES) {
-                first[lines] = tape.taken;
-            }
+            addLine(BORROW, borrower, tape.taken, sum);
             return true;
         }
 
-        private boolean noteSecond(Tape tape) {
+        private void addLine(int kind, int one, int two, int three) {
             if (lines < MOST_LINES) {
-                second[lines] = tape.taken;
+                act[lines] = kind;
+                first[lines] = one;
+                second[lines] = two;
+                third[lines] = three;
+                lines++;
             }
-            return true;
         }
 
         /** Lives the book in a shire, up to the first line that is wrong. */
@@ -1686,7 +1685,7 @@ public final class DebtTable {
             }
         }
 
-        /** Goes back from the house, step by step, and notes of each house how far it is from it; 0: there is no ring. */
+        /** Goes back from the house and notes how many steps each other one is from it; 0: there is no ring. */
         private int ringLength(Shire shire, int h) {
             for (int g = 0; g < MOST_HOUSES; g++) {
                 steps[g] = NONE;
