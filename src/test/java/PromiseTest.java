@@ -866,6 +866,11 @@ public final class PromiseTest {
         Check.is(0, Check.which(t, 4, 255));
         DebtTable u = Check.of(TWO + "debt a b 200 0;");
         Check.is(1, Check.which(u, 2, 200));
+        // all twelve
+        u = Check.of(TWO + repeat("debt a b 1 0;", 12));
+        Check.is(4095, Check.which(u, 0, 0, 1, 1, 2, 1, 3, 0));
+        Check.is(4, u.ask());
+        Check.is(2048, Check.which(u, 4, 11));
     }
 
     private static void ask() {
@@ -972,6 +977,14 @@ public final class PromiseTest {
             u.years(60);
         }
         Check.isText("abcdefg owes z 3800 of 499", Check.line(u, 0));
+        u = Check.of("house abcdefg 1 1 1;house z 1 1 1;debt abcdefg z 200 0;grows 8 1;");
+        u.years(60);
+        u.years(40);
+        Check.isText("abcdefg owes z 1000 of 100", Check.line(u, 0));
+        for (int i = 0; i < 5; i++) {
+            u.years(50);
+        }
+        Check.isText("abcdefg owes z 3000 of 350", Check.line(u, 0));
         Check.shire(u, TWO);
         Check.is(NONE, u.line(0));
         Check.is('g', u.byteAt(6));
