@@ -1386,8 +1386,8 @@ public final class DebtTable {
             isJudged = true;
             whyWrong = 0;
             rightLines = 0;
-            while (whyWrong == 0 && rightLines < lines) {
-                whyWrong = liveLine(shire, rightLines);
+            for (int i = 0; i < lines && whyWrong == 0; i++) {
+                whyWrong = liveLine(shire, i);
                 if (whyWrong == 0) {
                     rightLines++;
                 }

@@ -2,10 +2,8 @@
 public final class PromiseTest {
     private static final int NONE = DebtTable.NONE;
 
-    // ash owes elm 20, oak 15, elm 5; elm owes oak 12; oak owes ash 8
-    private static final String THREE = "house ash 30 5 2;house elm 10 0 1;house oak 50 2 3;debt ash elm 20 10;"
-            + "debt ash oak 15 40;debt elm oak 12 3;debt oak ash 8 7;debt ash elm 5 10;grows 2 4;";
-    private static final String TWO = "house a 100 0 1;house b 100 0 1;";
+    private static final String THREE = Check.THREE;
+    private static final String TWO = Check.TWO;
 
     private PromiseTest() { }
 
