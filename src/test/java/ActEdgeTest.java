@@ -1018,6 +1018,23 @@ public final class ActEdgeTest {
         }
         Check.is(true, same.restore(1));
         Check.isText(Tale.of(same), Tale.of(t));
+        Check.about("37, 38: the SENTENCE, and that there is none");
+        DebtTable said = Check.of(SIX);
+        said.image(0);
+        Check.sentence(said, "number=1 or number=3 and not free or number>4");
+        said.image(1);
+        Check.sentence(said, "free");
+        Check.is(true, said.restore(1));
+        Check.is(2, said.said(NONE));
+        Check.is(1, said.said(0));
+        Check.is(5, said.said(1));
+        Check.is(true, said.restore(0));
+        Check.is(NONE, said.said(NONE));
+        Check.sentence(said, "number<3");
+        Check.shire(said, TWO);
+        Check.is(true, said.restore(1));
+        Check.is(2, said.said(NONE));
+        Check.is(5, said.said(1));
         Check.about("38: nothing can be undone");
         DebtTable u = Check.rich();
         Check.is(true, u.restore(0));

@@ -41,6 +41,7 @@ public final class AskEdgeTest {
         byteAt();
         saidNumbers();
         said();
+        saidJoined();
         saidMeasures();
         count();
         Check.end();
@@ -640,7 +641,16 @@ public final class AskEdgeTest {
         Check.which(t, 0);
         Check.is(2, t.ask());
         Check.about("ASK: of like ones the first; of one DEBT all are alike");
-        Check.which(t, 2, 5);
+        Check.is(16, Check.which(t, 2, 5));
+        Check.is(0, t.ask());
+        Check.is(17, Check.which(t, 1, 1));
+        Check.is(2, t.ask());
+        // the most there can be: all twelve
+        DebtTable all = full();
+        Check.is(4095, Check.which(all, 0, 0));
+        Check.is(4, all.ask());
+        // the least answer above 0: the DEBT 0 alone
+        Check.is(1, Check.which(t, 2, 20));
         Check.is(0, t.ask());
         Check.about("ASK: the greatest number that have one of them is the least");
         // who owes: 3 and 1; to whom: 2 and 2; coins: 4; ages: 3 and 1; chairs: 0 twice, 1, 2
@@ -775,6 +785,12 @@ public final class AskEdgeTest {
         t.years(1);
         Check.isText("abcdefg owes tuvwxyz 1001 of 188", Check.line(t, 0));
         Check.is(32, t.line(0));
+        DebtTable thousand = Check.of(names + "debt abcdefg tuvwxyz 199 11;grows 9 1;");
+        thousand.years(60);
+        thousand.years(28);
+        Check.isText("abcdefg owes tuvwxyz 991 of 99", Check.line(thousand, 0));
+        thousand.years(1);
+        Check.isText("abcdefg owes tuvwxyz 1000 of 100", Check.line(thousand, 0));
         Check.about("LINE: digits that are 0");
         DebtTable u = Check.of(TWO + "debt a b 10 10;debt a b 100 9;debt a b 101 90;");
         Check.isText("a owes b 10 of 10", Check.line(u, 0));
@@ -895,6 +911,9 @@ public final class AskEdgeTest {
         saidOf(u, "owes b", 1);
         saidOf(u, "owes a", 4);
         saidOf(u, "owes c", 0);
+        u.forgive(1);
+        saidOf(u, "owes b", 1);
+        u.undo();
         u.forgive(0);
         saidOf(u, "owes b", 1);
         u.sell(1, 2);
@@ -902,11 +921,40 @@ public final class AskEdgeTest {
         saidOf(u, "owes c", 1);
         u.forgive(1);
         saidOf(u, "owes c", 0);
+        saidOf(full(), "owes b", 1);
+        saidOf(full(), "owes c", 0);
+        DebtTable back = Check.of(TWO);
+        back.borrow(0, 1, 5);
+        back.undo();
+        saidOf(back, "owes b", 0);
         Check.about("SENTENCE: 'ringed': it is in a RING");
         DebtTable v = Check.of(TWO + "house c 9 0 1;debt a b 1 0;debt b a 1 0;debt c a 1 0;");
         saidOf(v, "ringed", 3);
         v.forgive(0);
         saidOf(v, "ringed", 0);
+    }
+
+    /** Each plain ONE on either side of 'and' and 'or', under 'not' and in brackets. */
+    private static void saidJoined() {
+        Check.about("SENTENCE: COND: ALL { 'or' ALL }, ALL: ONE { 'and' ONE }");
+        String text = "house a 4 0 1;house b 5 0 2;house c 6 0 3;debt b a 9 0;debt c a 1 0;debt c b 1 0;"
+                + "debt a c 1 0;house d 0 0 1;";
+        String[] ones = {"free", "broke", "full", "ringed", "owes a", "coins>5", "debts=1", "chairs<2", "number=2"};
+        int[] bits = {8, 2, 1, 7, 6, 4, 3, 9, 4};
+        for (int i = 0; i < ones.length; i++) {
+            DebtTable t = Check.of(text);
+            saidOf(t, ones[i], bits[i]);
+            saidOf(t, "not " + ones[i], 15 & ~bits[i]);
+            saidOf(t, "(" + ones[i] + ")", bits[i]);
+            for (int j = 0; j < ones.length; j++) {
+                DebtTable u = Check.of(text);
+                saidOf(u, ones[i] + " or " + ones[j], bits[i] | bits[j]);
+                saidOf(u, ones[i] + " and " + ones[j], bits[i] & bits[j]);
+                saidOf(u, "number=3 or " + ones[i] + " and " + ones[j], 8 | bits[i] & bits[j]);
+                saidOf(u, ones[i] + " and " + ones[j] + " or number=3", bits[i] & bits[j] | 8);
+                saidOf(u, "(number=3 or " + ones[i] + ")and not " + ones[j], (8 | bits[i]) & ~bits[j]);
+            }
+        }
     }
 
     private static void saidMeasures() {

@@ -17,6 +17,7 @@ public final class TextEdgeTest {
         feedOrder();
         end();
         everyByte();
+        everyByteForToken();
         wordsAndNumbers();
         shireEmptyAndFull();
         shireNumbers();
@@ -92,7 +93,23 @@ public final class TextEdgeTest {
         }
         Check.is(false, t.end(1));
         Check.is(true, t.end(0));
-        // each text of an empty tape
+        Check.about("1: nothing was told, no SENTENCE, nothing to undo or to restore");
+        Check.is(0, t.fault());
+        Check.is(NONE, t.said(NONE));
+        Check.is(NONE, t.said(0));
+        Check.is(NONE, t.ask());
+        Check.is(NONE, t.ableOf());
+        Check.is(NONE, t.ringAt(0));
+        Check.is(NONE, t.byteAt(0));
+        for (int what = 0; what < 4; what++) {
+            Check.is(NONE, t.told(what));
+        }
+        Check.is(NONE, t.undo());
+        Check.is(false, t.restore(0));
+        Check.is(false, t.restore(1));
+        Check.is(NONE, t.fullest());
+        Check.is(0, t.settle());
+        Check.about("1: each text of an empty tape");
         Check.is(0, t.shire());
         Check.is(NONE, t.which());
         Check.is(NONE, t.book(0));
@@ -218,6 +235,29 @@ public final class TextEdgeTest {
             int line = Check.shire(t, "grows 1 1" + (char) sign);
             Check.is(sign == ';' ? 1 : isBlank ? -11 : goesOn(sign) && sign > '9' ? -9 : sign >= '0' && sign <= '9'
                     ? -11 : -10, line);
+        }
+    }
+
+    /** Where a NAME, a NUMBER, a LINE should be, a byte that is none of a TOKEN's is at fault itself. */
+    private static void everyByteForToken() {
+        Check.about("TOKENS: what is not as told is no TOKEN, wherever it stands");
+        for (int sign = 0; sign < 256; sign++) {
+            boolean isBlank = sign == 32 || sign == 10;
+            boolean isLetter = sign >= 'a' && sign <= 'z';
+            boolean isDigit = sign >= '0' && sign <= '9';
+            DebtTable t = new DebtTable();
+            Check.is(isLetter ? 1 : isBlank ? -9 : -7, Check.shire(t, "house " + (char) sign + " 1 1 1;"));
+            Check.is(isLetter ? 0 : 1, t.fault());
+            Check.is(isDigit ? 1 : isBlank ? -10 : -7, Check.shire(t, "grows " + (char) sign + " 1;"));
+            Check.is(isDigit ? 0 : 1, t.fault());
+            t = Check.of(TWO);
+            Check.is(sign == 'a' || sign == 'b' ? 1 : isBlank ? -7 : -6, Check.sentence(t, "owes " + (char) sign));
+            Check.is(sign == 'a' || sign == 'b' ? 0 : isLetter ? 3 : 1, t.fault());
+            Check.is(sign == 'b' ? NONE : isBlank ? -16 : -14, Check.book(t, 0, "a borrows 1 " + (char) sign + " ;"));
+            Check.is(sign == 'b' ? 0 : isLetter ? 3 : 1, t.fault());
+            int line = Check.book(t, 0, (char) sign + " borrows 1 b;");
+            Check.is(sign == 'a' ? NONE : sign == 'b' ? -14 : isBlank ? -4 : -2, line);
+            Check.is(sign == 'a' ? 0 : isLetter ? 3 : 1, t.fault());
         }
     }
 
@@ -442,6 +482,14 @@ public final class TextEdgeTest {
         shireFault(8, 2, padded("grows 1 0", 940));
         shireFault(10, 3, padded("grows 1 1;grows", 940));
         shireFault(SIX.length(), 4, padded(SIX + "house", 940));
+        Check.about("FAULTS 1: the most bytes told, whatever should have come there");
+        for (String text : new String[] {"", "grows", "grows 0", "grows 0 1", "house", "house a", "house a 99",
+            "house a 99 9", "house a 99 9 1", TWO + "debt", TWO + "debt a", TWO + "debt a b", TWO + "debt a b 200"}) {
+            shireFault(900, 1, padded(text, 901));
+            shireFault(900, 1, padded(text, 900) + "x");
+            shireFault(900, 1, padded(text, 900) + "9999");
+            shireFault(900, 1, padded(text, 900) + ".");
+        }
     }
 
     private static void shireFaultsInOrder() {
@@ -607,6 +655,14 @@ public final class TextEdgeTest {
         String forty = "year 1;".repeat(40);
         bookFault(399, 4, padded(forty, 399) + "year 1;");
         bookFault(400, 1, padded(forty, 400) + "year 1;");
+        Check.about("FAULTS 1: the most bytes told, whatever should have come there in a BOOK");
+        for (String text : new String[] {"", "pay", "pay 0", "pay 0 1", "ash", "ash borrows", "ash borrows 1",
+            "ash borrows 1 oak", "sell", "sell 0", "sell 0 ash", "forgive", "forgive 0", "clear", "clear 0", "clear 0 1",
+            "year", "year 1", "year 1;"}) {
+            bookFault(400, 1, padded(text, 401));
+            bookFault(400, 1, padded(text, 400) + "x");
+            bookFault(400, 1, padded(text, 400) + "0");
+        }
     }
 
     // ---- SENTENCES
@@ -745,6 +801,13 @@ public final class TextEdgeTest {
         sentenceFault(199, 4, padded("full or ".repeat(20), 199) + "full");
         sentenceFault(200, 1, padded("full or ".repeat(20), 200) + "full");
         sentenceFault(0, 1, padded("x", 940));
+        Check.about("FAULTS 1: the most bytes told, whatever should have come there in a SENTENCE");
+        for (String text : new String[] {"", "free", "not", "(", "((((((((", "(free", "(free)", "free or", "free and",
+            "owes", "owes ash", "coins", "coins<", "coins<3", "full or ".repeat(20)}) {
+            sentenceFault(200, 1, padded(text, 201));
+            sentenceFault(200, 1, padded(text, 200) + "x");
+            sentenceFault(200, 1, padded(text, 200) + "(");
+        }
     }
 
     // ---- the latest FAULT
