@@ -1554,19 +1554,20 @@ public final class DebtTable {
                 return tape.fail(TOO_MANY);
             }
             ones++;
-            if (tape.isMark('(')) {
-                tape.advance();
+            Word word = tape.word;
+            tape.advance();
+            // a bracket is the only one that begins by no word
+            if (word == null) {
                 return readCondition(depth + 1) && tape.takeMark(')');
             }
-            if (tape.word == Word.NOT) {
-                tape.advance();
+            if (word == Word.NOT) {
                 if (!readOne(depth + 1)) {
                     return false;
                 }
                 into.add(Word.NOT, 0, 0);
                 return true;
             }
-            return readPlain(tape.word);
+            return readPlain(word);
         }
 
         private boolean isOne() {
@@ -1578,7 +1579,6 @@ public final class DebtTable {
         }
 
         private boolean readPlain(Word word) {
-            tape.advance();
             if (word == Word.OWES) {
                 if (!tape.takeHouse(shire, NONE)) {
                     return false;
