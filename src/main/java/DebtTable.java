@@ -741,10 +741,6 @@ public final class DebtTable {
             return true;
         }
 
-        boolean takeDebt() {
-            return takeNumber(0, MOST_DEBTS - 1);
-        }
-
         /** Takes a house of the shire other than one (NONE: whichever it is). */
         boolean takeHouse(Shire shire, int other) {
             if (sort != NAME) {
@@ -1321,7 +1317,8 @@ public final class DebtTable {
                 return readBorrow(tape, shire);
             }
             tape.advance();
-            boolean isTaken = kind == YEAR ? tape.takeNumber(1, MOST_YEARS_A_CALL) : tape.takeDebt();
+            boolean isTaken = kind == YEAR
+                    ? tape.takeNumber(1, MOST_YEARS_A_CALL) : tape.takeNumber(0, MOST_DEBTS - 1);
             int yearsOrDebt = tape.taken;
             if (!isTaken || !takeSecond(tape, shire, kind)) {
                 return false;
@@ -1350,7 +1347,7 @@ public final class DebtTable {
             switch (kind) {
                 case PAY: return tape.takeNumber(1, MOST_PAID_AT_ONCE);
                 case SELL: return tape.takeHouse(shire, NONE);
-                case CLEAR: return tape.takeDebt();
+                case CLEAR: return tape.takeNumber(0, MOST_DEBTS - 1);
                 default: return true;
             }
         }

@@ -19,6 +19,7 @@ public final class TextEdgeTest {
         everyByte();
         everyByteForToken();
         wordsAndNumbers();
+        tokensOutOfPlace();
         shireEmptyAndFull();
         shireNumbers();
         grows();
@@ -301,6 +302,89 @@ public final class TextEdgeTest {
     }
 
     // ---- SHIRES
+
+    /** A text that is refused by a LINE: the place is counted from the LINE's first byte. */
+    private interface Refused {
+        void at(int place, int kind, String line);
+    }
+
+    private static void tokensOutOfPlace() {
+        Check.about("FAULTS 1: a TOKEN of a LINE is left out, told twice, told behind the next");
+        for (String line : new String[] {"house c 1 1 1 ;", "debt a b 1 1 ;", "grows 1 1 ;"}) {
+            outOfPlace(line, (place, kind, text) -> shireFault(TWO.length() + place, kind, TWO + text));
+        }
+        for (String line : new String[] {"pay 1 1 ;", "ash borrows 1 elm ;", "sell 1 oak ;", "forgive 1 ;", "clear 1 1 ;",
+            "year 1 ;"}) {
+            outOfPlace(line, TextEdgeTest::bookFault);
+            outOfPlace(line, (place, kind, text) -> bookFault(7 + place, kind, "year 1;" + text));
+        }
+        Check.about("FAULTS 1: a TOKEN of a SENTENCE is left out, or told twice");
+        sentenceFault(0, 1, "< 1");
+        sentenceFault(6, 1, "coins 1");
+        sentenceFault(7, 1, "coins <");
+        sentenceFault(6, 1, "coins coins < 1");
+        sentenceFault(8, 1, "coins < < 1");
+        sentenceFault(10, 1, "coins < 1 1");
+        sentenceFault(0, 1, "ash");
+        sentenceFault(5, 1, "owes owes ash");
+        sentenceFault(9, 1, "owes ash ash");
+        sentenceFault(5, 1, "free free");
+        sentenceFault(9, 1, "not free free");
+        sentenceFault(8, 1, "free or or free");
+        sentenceFault(9, 1, "free and and free");
+    }
+
+    /** Each number of the LINE is 1, so that it may stand for each other one. */
+    private static void outOfPlace(String line, Refused refused) {
+        String[] tokens = line.split(" ");
+        int place = 0;
+        for (int i = 0; i < tokens.length; i++) {
+            String ahead = line.substring(0, place);
+            String behind = line.substring(place + tokens[i].length()).trim();
+            refused.at(placeLeftOut(tokens, i), 1, ahead + behind);
+            // 'debt a a' tells the same HOUSE twice
+            boolean isAlike = tokens[0].equals("debt") && i == 1;
+            int twice = isAlike ? place + tokens[i].length() + 1 : placeTwice(tokens, i);
+            refused.at(twice, isAlike ? 3 : 1, ahead + tokens[i] + " " + tokens[i] + " " + behind);
+            if (i + 1 < tokens.length && !isOfSort(tokens[i], tokens[i + 1])) {
+                String rest = behind.substring(tokens[i + 1].length());
+                refused.at(place, 1, ahead + tokens[i + 1] + " " + tokens[i] + rest);
+            }
+            place += tokens[i].length() + 1;
+        }
+    }
+
+    private static boolean isOfSort(String one, String other) {
+        return one.equals(other) || isName(one) && isName(other);
+    }
+
+    private static boolean isName(String token) {
+        return token.matches("[a-z]+") && !Model.WORDS.contains(token);
+    }
+
+    /** The first TOKEN behind i that can't stand where the one ahead of it should; the end, if all can. */
+    private static int placeLeftOut(String[] tokens, int i) {
+        int place = 0;
+        for (int j = 0; j < tokens.length; j++) {
+            if (j > i && !isOfSort(tokens[j], tokens[j - 1])) {
+                return place;
+            }
+            place += j == i ? 0 : tokens[j].length() + 1;
+        }
+        return place;
+    }
+
+    /** The first TOKEN from i on that can't stand where the next one should; it is told once more ahead of it. */
+    private static int placeTwice(String[] tokens, int i) {
+        int place = tokens[i].length() + 1;
+        for (int j = 0; j < tokens.length; j++) {
+            if (j >= i && (j + 1 == tokens.length || !isOfSort(tokens[j], tokens[j + 1]))) {
+                return place;
+            }
+            place += tokens[j].length() + 1;
+        }
+        return place;
+    }
 
     private static void shireEmptyAndFull() {
         Check.about("4: { LINE ; }: the empty text and the full one");
