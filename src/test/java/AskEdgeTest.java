@@ -927,6 +927,10 @@ public final class AskEdgeTest {
         back.borrow(0, 1, 5);
         back.undo();
         saidOf(back, "owes b", 0);
+        // whichever of the twelve it is
+        for (int d = 0; d < 12; d++) {
+            saidOf(Check.of(TWO + "debt b a 1 0;".repeat(d) + "debt a b 1 0;" + "debt b a 1 0;".repeat(11 - d)), "owes b", 1);
+        }
         Check.about("SENTENCE: 'ringed': it is in a RING");
         DebtTable v = Check.of(TWO + "house c 9 0 1;debt a b 1 0;debt b a 1 0;debt c a 1 0;");
         saidOf(v, "ringed", 3);

@@ -19,11 +19,17 @@ final class Tale {
 
     /** Without what calls told last. */
     static String ofState(DebtTable t) {
+        StringBuilder sb = new StringBuilder(ofNow(t));
+        past(t, sb);
+        return sb.toString();
+    }
+
+    /** What is so now alone: nothing is undone. */
+    static String ofNow(DebtTable t) {
         StringBuilder sb = new StringBuilder();
         state(t, sb);
         houses(t, sb);
         debts(t, sb);
-        past(t, sb);
         return sb.toString();
     }
 

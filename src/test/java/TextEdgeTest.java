@@ -293,6 +293,20 @@ public final class TextEdgeTest {
         sentenceFault(6, 1, "coins<3and free");
         sentenceFault(0, 1, "notfree");
         sentenceFault(0, 1, "coins3<4");
+        Check.about("TOKENS: a run that tells the number of a sign is no sign");
+        for (String run : new String[] {"59", "059", "0059", "59a", "a59", "5a9"}) {
+            shireFault(10, 1, "grows 1 1 " + run);
+            bookFault(7, 1, "year 1 " + run);
+        }
+        for (String run : new String[] {"60", "61", "62", "0060", "61x", "x62"}) {
+            sentenceFault(6, 1, "coins " + run + " 5");
+        }
+        for (String run : new String[] {"40", "0040", "40x", "x40"}) {
+            sentenceFault(0, 1, run + " free)");
+        }
+        for (String run : new String[] {"41", "0041", "41x", "x41"}) {
+            sentenceFault(6, 1, "(free " + run);
+        }
         Check.about("TOKENS: with blanks between them or not");
         shireIs(2, "house a 1 1 1;house b 1 1 1;");
         shireIs(2, "\n\nhouse\na\n1\n1\n1\n;\n\nhouse  b  1  1  1  ;\n \n");
@@ -521,6 +535,8 @@ public final class TextEdgeTest {
         shireFault(full.length(), 4, full + "debt");
         // others may still come
         shireIs(16, full + "house c 1 1 1;grows 1 1;");
+        Check.is(3, Check.of(full + "house c 1 1 1;").count(0));
+        Check.is(7, Check.of(full + "house c 7 1 1;").house(2, 0));
         shireIs(7, SIX + "debt a f 1 1;");
         Check.about("4: numbered from 0 each");
         DebtTable t = Check.of("grows 1 1;house a 5 1 1;house b 6 1 1;debt b a 7 1;house c 8 1 1;debt c b 9 1;");
