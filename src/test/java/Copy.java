@@ -1,6 +1,7 @@
 import java.io.IOException;
 import java.nio.file.Files;
 import java.nio.file.Path;
+import java.nio.file.StandardCopyOption;
 import java.util.ArrayList;
 import java.util.Comparator;
 import java.util.List;
@@ -25,7 +26,7 @@ final class Copy implements AutoCloseable {
         for (String part : List.of(".ci", "src", "README.md")) {
             copy(Path.of(part), project.resolve(part));
         }
-        copy(Path.of("../shared/tests"), shared.resolve("tests"));
+        copy(Path.of("../shared/tests").toRealPath(), shared.resolve("tests"));
     }
 
     static boolean isInsideOne() {
@@ -39,7 +40,7 @@ final class Copy implements AutoCloseable {
                 Files.createDirectories(there);
             } else {
                 Files.createDirectories(there.getParent());
-                Files.copy(path, there, java.nio.file.StandardCopyOption.COPY_ATTRIBUTES);
+                Files.copy(path, there, StandardCopyOption.COPY_ATTRIBUTES);
             }
         }
     }
